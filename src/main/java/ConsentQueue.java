@@ -755,7 +755,7 @@ public final class ConsentQueue {
         private int willingPairs() {
             int willing = 0;
             for (int place = 0; place < count - 1; place++) {
-                willing += wouldSwap(place) ? 1 : 0;
+                willing += hindrance(place) == 0 ? 1 : 0;
             }
             return willing;
         }

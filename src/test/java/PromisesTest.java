@@ -138,8 +138,12 @@ final class PromisesTest {
         badArgument("join(1, 0)", queue, () -> queue.join(1, 0));
         badArgument("join(1, 31)", queue, () -> queue.join(1, 31));
         badArgument("join(MAX, MIN)", queue, () -> queue.join(MAX, MIN));
-        queue.leave(0);
+        queue.offer(1, 5);
+        queue.befriend(0);
+        queue.leave(1);
         Expect.equal("numbers are not used again", queue.join(1, 1), 2);
+        Expect.equal("a new member has no offer", queue.member(2, 7), NONE);
+        Expect.equal("a new member has no friends", queue.member(2, 9), 0);
         ConsentQueue full = fullQueue();
         badState("an eleventh", full, () -> full.join(1, 1));
         badArgument("an eleventh out of range", full, () -> full.join(100, 1));
@@ -597,6 +601,8 @@ final class PromisesTest {
         Expect.equal("length", queue.whole(13), 0);
         Expect.equal("nothing to run", queue.runCommands(), 0);
         Expect.equal("nobody joined", queue.whole(0), 0);
+        type(queue, "join 1 1");
+        Expect.equal("what stood behind is gone", queue.runCommands(), -18);
         Expect.equal("only the run is saved", savedStates(queue), 1);
     }
 
@@ -640,6 +646,12 @@ final class PromisesTest {
         fault("joi", 0);
         fault(" x", 1);
         fault("joi#", 0);
+        fault("joinz 1 1;", 0);
+        fault("ajoin 1 1;", 0);
+        fault("join` 1 1;", 4);
+        fault("join{ 1 1;", 4);
+        fault("join 1/ 1;", 6);
+        fault("join 1: 1;", 6);
         fault("join#", 4);
         fault("join", 4);
         fault("join ", 5);
