@@ -4,17 +4,42 @@ final class Expect {
         long answer();
     }
 
+    interface Test {
+        void run();
+    }
+
     private static int wrong;
     private static int asked;
+    /** What the running test says of itself; stands in front of every answer that is not as due. */
+    private static String sentence = "";
 
     private Expect() {
+    }
+
+    /** A test of one sentence of the document: a throw in it counts as wrong, and others go on. */
+    static void sentence(String promiseAndWords, Test test) {
+        sentence = promiseAndWords + " | ";
+        int before = asked;
+        try {
+            test.run();
+        } catch (RuntimeException thrown) {
+            fail("threw " + thrown);
+        }
+        if (asked == before) {
+            fail("asks nothing");
+        }
+        sentence = "";
+    }
+
+    private static void fail(String what) {
+        wrong++;
+        System.out.println(sentence + what);
     }
 
     static void equal(String what, long got, long want) {
         asked++;
         if (got != want) {
-            wrong++;
-            System.out.println(what + ": answered " + got + ", due is " + want);
+            fail(what + ": answered " + got + ", due is " + want);
         }
     }
 
@@ -34,8 +59,7 @@ final class Expect {
             }
             got = "threw " + thrown.getClass().getName();
         }
-        wrong++;
-        System.out.println(what + ": " + got + ", due is " + due.getName());
+        fail(what + ": " + got + ", due is " + due.getName());
     }
 
     static void badIndex(String what, Call call) {

@@ -45,51 +45,6 @@ final class PromisesTest {
 
     // ---- helpers
 
-    /** A queue of members given by worth and service time, one after the other. */
-    private static ConsentQueue queueOf(int... worthsAndServices) {
-        ConsentQueue queue = new ConsentQueue();
-        for (int i = 0; i + 1 < worthsAndServices.length; i += 2) {
-            queue.join(worthsAndServices[i], worthsAndServices[i + 1]);
-        }
-        return queue;
-    }
-
-    private static ConsentQueue fullQueue() {
-        return queueOf(1, 1, 2, 1, 3, 1, 4, 1, 5, 1, 6, 1, 7, 1, 8, 1, 9, 1, 10, 1);
-    }
-
-    private static void order(String what, ConsentQueue queue, int... numbers) {
-        Expect.equal(what + ", members", queue.whole(0), numbers.length);
-        for (int place = 0; place < numbers.length; place++) {
-            Expect.equal(what + ", place " + place, queue.at(place), numbers[place]);
-        }
-    }
-
-    private static void type(ConsentQueue queue, String text) {
-        for (int i = 0; i < text.length(); i++) {
-            queue.type(text.charAt(i));
-        }
-    }
-
-    private static int run(ConsentQueue queue, String text) {
-        queue.clearCommands();
-        type(queue, text);
-        return queue.runCommands();
-    }
-
-    private static int savedStates(ConsentQueue queue) {
-        int saved = 0;
-        for (int i = 0; i < 10; i++) {
-            try {
-                queue.undo();
-                saved++;
-            } catch (IllegalStateException empty) {
-                return saved;
-            }
-        }
-        return saved;
-    }
-
     /** The call is refused with this exception, and the digest stays what it was. */
     private static void unchanged(String what, ConsentQueue queue,
             Class<? extends RuntimeException> due, Expect.Call call) {
@@ -130,7 +85,7 @@ final class PromisesTest {
         ConsentQueue queue = new ConsentQueue();
         Expect.equal("join(0, 1)", queue.join(0, 1), 0);
         Expect.equal("join(99, 30)", queue.join(99, 30), 1);
-        order("joined", queue, 0, 1);
+        Queues.order("joined", queue, 0, 1);
         Expect.equal("told", queue.member(1, 2), 99);
         Expect.equal("money", queue.member(1, 6), 0);
         badArgument("join(-1, 1)", queue, () -> queue.join(-1, 1));
@@ -144,7 +99,7 @@ final class PromisesTest {
         Expect.equal("numbers are not used again", queue.join(1, 1), 2);
         Expect.equal("a new member has no offer", queue.member(2, 7), NONE);
         Expect.equal("a new member has no friends", queue.member(2, 9), 0);
-        ConsentQueue full = fullQueue();
+        ConsentQueue full = Queues.full();
         badState("an eleventh", full, () -> full.join(1, 1));
         badArgument("an eleventh out of range", full, () -> full.join(100, 1));
         full.serve();
@@ -152,11 +107,11 @@ final class PromisesTest {
     }
 
     private static void promise3JoinAt() {
-        ConsentQueue queue = queueOf(1, 1, 2, 2);
+        ConsentQueue queue = Queues.of(1, 1, 2, 2);
         Expect.equal("joinAt front", queue.joinAt(3, 3, 0), 2);
         Expect.equal("joinAt end", queue.joinAt(4, 4, 3), 3);
         Expect.equal("joinAt middle", queue.joinAt(5, 5, 2), 4);
-        order("joined at", queue, 2, 0, 4, 1, 3);
+        Queues.order("joined at", queue, 2, 0, 4, 1, 3);
         badArgument("joinAt(-1, 1, 0)", queue, () -> queue.joinAt(-1, 1, 0));
         badArgument("joinAt(1, 31, 0)", queue, () -> queue.joinAt(1, 31, 0));
         badArgument("joinAt(1, 1, -1)", queue, () -> queue.joinAt(1, 1, -1));
@@ -167,19 +122,19 @@ final class PromisesTest {
         badArgument("between friends, out of range", queue, () -> queue.joinAt(1, 0, 2));
         queue.joinAt(1, 1, 1);
         queue.joinAt(1, 1, 4);
-        order("around friends", queue, 2, 5, 0, 4, 6, 1, 3);
+        Queues.order("around friends", queue, 2, 5, 0, 4, 6, 1, 3);
         Expect.equal("friends moved back", queue.pair(2, 4), 1);
-        ConsentQueue full = fullQueue();
+        ConsentQueue full = Queues.full();
         badState("an eleventh at 10", full, () -> full.joinAt(1, 1, 10));
         badArgument("an eleventh at 11", full, () -> full.joinAt(1, 1, 11));
     }
 
     private static void promise4Leave() {
-        ConsentQueue queue = queueOf(1, 1, 2, 2, 3, 3, 4, 4);
+        ConsentQueue queue = Queues.of(1, 1, 2, 2, 3, 3, 4, 4);
         queue.befriend(0);
         queue.befriend(1);
         Expect.equal("leave(1)", queue.leave(1), 1);
-        order("left", queue, 0, 2, 3);
+        Queues.order("left", queue, 0, 2, 3);
         Expect.equal("no friends over a gap", queue.pair(0, 4), 0);
         Expect.equal("no pairs of friends", queue.whole(8), 0);
         badIndex("leave(1) again", queue, () -> queue.leave(1));
@@ -194,11 +149,11 @@ final class PromisesTest {
     }
 
     private static void promise5Serve() {
-        ConsentQueue queue = queueOf(1, 1, 2, 2, 3, 3);
+        ConsentQueue queue = Queues.of(1, 1, 2, 2, 3, 3);
         queue.befriend(0);
         queue.befriend(1);
         Expect.equal("serve()", queue.serve(), 0);
-        order("served", queue, 1, 2);
+        Queues.order("served", queue, 1, 2);
         Expect.equal("served in all", queue.whole(11), 1);
         Expect.equal("other friends stay", queue.pair(0, 4), 1);
         Expect.equal("friends of the first now", queue.member(1, 9), 1);
@@ -210,7 +165,7 @@ final class PromisesTest {
     }
 
     private static void promise6Say() {
-        ConsentQueue queue = queueOf(10, 5, 20, 5);
+        ConsentQueue queue = Queues.of(10, 5, 20, 5);
         Expect.equal("say(1, 99)", queue.say(1, 99), 20);
         Expect.equal("say(1, 0)", queue.say(1, 0), 99);
         Expect.equal("told", queue.member(1, 2), 0);
@@ -222,7 +177,7 @@ final class PromisesTest {
     }
 
     private static void promise7SetSplit() {
-        ConsentQueue queue = queueOf(10, 10, 30, 5);
+        ConsentQueue queue = Queues.of(10, 10, 30, 5);
         Expect.equal("setSplit(0)", queue.setSplit(0), 50);
         Expect.equal("all to the back one", queue.pair(0, 3), 50);
         Expect.equal("setSplit(100)", queue.setSplit(100), 0);
@@ -236,7 +191,7 @@ final class PromisesTest {
     // ---- swaps, offers, friends
 
     private static void promise8Offer() {
-        ConsentQueue queue = queueOf(1, 1, 2, 2, 3, 3);
+        ConsentQueue queue = Queues.of(1, 1, 2, 2, 3, 3);
         Expect.equal("offer(1, 0)", queue.offer(1, 0), NONE);
         Expect.equal("offer(1, 9999)", queue.offer(1, 9999), 0);
         Expect.equal("offer(2, 7)", queue.offer(2, 7), NONE);
@@ -252,7 +207,7 @@ final class PromisesTest {
     }
 
     private static void promise8OffersThatEnd() {
-        ConsentQueue queue = queueOf(1, 1, 2, 1, 3, 1, 4, 1);
+        ConsentQueue queue = Queues.of(1, 1, 2, 1, 3, 1, 4, 1);
         queue.offer(1, 5);
         queue.offer(2, 6);
         queue.offer(3, 7);
@@ -268,13 +223,13 @@ final class PromisesTest {
         queue.offer(2, 6);
         queue.serve();
         Expect.equal("the one ahead is served", queue.member(2, 7), NONE);
-        ConsentQueue other = queueOf(1, 1, 2, 1, 3, 1, 4, 1);
+        ConsentQueue other = Queues.of(1, 1, 2, 1, 3, 1, 4, 1);
         other.offer(1, 5);
         other.offer(2, 6);
         other.offer(3, 7);
         other.swap(1);
         Expect.equal("offers around a swap are gone", other.whole(6), 0);
-        ConsentQueue told = queueOf(1, 1, 2, 1);
+        ConsentQueue told = Queues.of(1, 1, 2, 1);
         told.offer(1, 5);
         told.befriend(0);
         told.say(0, 50);
@@ -282,12 +237,12 @@ final class PromisesTest {
     }
 
     private static void promise9Take() {
-        ConsentQueue queue = queueOf(10, 4, 2, 3, 5, 6);
+        ConsentQueue queue = Queues.of(10, 4, 2, 3, 5, 6);
         queue.offer(1, 29);
         badState("below the loss", queue, () -> queue.take(0));
         queue.offer(1, 30);
         Expect.equal("at the loss", queue.take(0), 30);
-        order("taken", queue, 1, 0, 2);
+        Queues.order("taken", queue, 1, 0, 2);
         Expect.equal("payer", queue.member(1, 6), -30);
         Expect.equal("paid one", queue.member(0, 6), 30);
         Expect.equal("swaps", queue.whole(9), 1);
@@ -313,9 +268,9 @@ final class PromisesTest {
     }
 
     private static void promise10Swap() {
-        ConsentQueue queue = queueOf(5, 10, 9, 4, 9, 4);
+        ConsentQueue queue = Queues.of(5, 10, 9, 4, 9, 4);
         Expect.equal("swap(0)", queue.swap(0), 55);
-        order("swapped", queue, 1, 0, 2);
+        Queues.order("swapped", queue, 1, 0, 2);
         Expect.equal("payer", queue.member(1, 6), -55);
         Expect.equal("paid one", queue.member(0, 6), 55);
         Expect.equal("swaps", queue.whole(9), 1);
@@ -331,19 +286,19 @@ final class PromisesTest {
         badState("the front one's friend", queue, () -> queue.swap(1));
         queue.part(0);
         Expect.equal("parted", queue.swap(1), 55);
-        ConsentQueue equal = queueOf(6, 4, 3, 2);
+        ConsentQueue equal = Queues.of(6, 4, 3, 2);
         badState("no surplus", equal, () -> equal.swap(0));
-        ConsentQueue held = queueOf(1, 1, 9, 1, 1, 1);
+        ConsentQueue held = Queues.of(1, 1, 9, 1, 1, 1);
         held.befriend(1);
         badState("the back one's friend", held, () -> held.swap(0));
-        ConsentQueue alone = queueOf(1, 1);
+        ConsentQueue alone = Queues.of(1, 1);
         badIndex("none behind", alone, () -> alone.swap(0));
-        ConsentQueue odd = queueOf(0, 1, 1, 1);
+        ConsentQueue odd = Queues.of(0, 1, 1, 1);
         Expect.equal("rounded down", odd.swap(0), 0);
     }
 
     private static void promise11Befriend() {
-        ConsentQueue queue = queueOf(1, 1, 2, 1, 3, 1);
+        ConsentQueue queue = Queues.of(1, 1, 2, 1, 3, 1);
         Expect.equal("befriend(1)", queue.befriend(1), 1);
         Expect.equal("befriend(0)", queue.befriend(0), 2);
         Expect.equal("friends of the middle one", queue.member(1, 9), 2);
@@ -355,7 +310,7 @@ final class PromisesTest {
     }
 
     private static void promise12Part() {
-        ConsentQueue queue = queueOf(1, 1, 2, 1, 3, 1);
+        ConsentQueue queue = Queues.of(1, 1, 2, 1, 3, 1);
         badState("part(0), no friends", queue, () -> queue.part(0));
         queue.befriend(0);
         queue.befriend(1);
@@ -370,12 +325,12 @@ final class PromisesTest {
     }
 
     private static void promise13Settle() {
-        ConsentQueue queue = fullQueue();
+        ConsentQueue queue = Queues.full();
         Expect.equal("settle()", queue.settle(), 45);
-        order("turned round", queue, 9, 8, 7, 6, 5, 4, 3, 2, 1, 0);
+        Queues.order("turned round", queue, 9, 8, 7, 6, 5, 4, 3, 2, 1, 0);
         Expect.equal("swaps", queue.whole(9), 45);
         Expect.equal("settled already", queue.settle(), 0);
-        ConsentQueue priced = queueOf(0, 3, 2, 3, 4, 3);
+        ConsentQueue priced = Queues.of(0, 3, 2, 3, 4, 3);
         priced.setSplit(100);
         priced.offer(1, 7);
         Expect.equal("settle() of three", priced.settle(), 3);
@@ -384,11 +339,11 @@ final class PromisesTest {
         Expect.equal("paid by the last", priced.member(2, 6), -24);
         Expect.equal("paid in all", priced.whole(10), 30);
         Expect.equal("offers ended on the way", priced.whole(6), 0);
-        ConsentQueue held = queueOf(1, 1, 2, 1, 9, 1);
+        ConsentQueue held = Queues.of(1, 1, 2, 1, 9, 1);
         held.befriend(0);
         Expect.equal("friends are not parted", held.settle(), 0);
-        order("held by friends", held, 0, 1, 2);
-        ConsentQueue lying = queueOf(1, 1, 2, 1);
+        Queues.order("held by friends", held, 0, 1, 2);
+        ConsentQueue lying = Queues.of(1, 1, 2, 1);
         lying.say(0, 5);
         Expect.equal("by told worths", lying.settle(), 0);
     }
@@ -396,7 +351,7 @@ final class PromisesTest {
     // ---- values
 
     private static void promise14Member() {
-        ConsentQueue queue = queueOf(5, 10, 9, 4, 7, 6);
+        ConsentQueue queue = Queues.of(5, 10, 9, 4, 7, 6);
         queue.say(1, 30);
         queue.offer(1, 25);
         queue.offer(2, 12);
@@ -416,7 +371,7 @@ final class PromisesTest {
     }
 
     private static void promise15At() {
-        ConsentQueue queue = queueOf(1, 1, 2, 2);
+        ConsentQueue queue = Queues.of(1, 1, 2, 2);
         queue.joinAt(3, 3, 0);
         Expect.equal("at(0)", queue.at(0), 2);
         Expect.equal("at(2)", queue.at(2), 1);
@@ -427,7 +382,7 @@ final class PromisesTest {
     }
 
     private static void promise16Pair() {
-        ConsentQueue queue = queueOf(5, 10, 9, 4, 2, 6, 4, 12);
+        ConsentQueue queue = Queues.of(5, 10, 9, 4, 2, 6, 4, 12);
         queue.befriend(0);
         int[] due = {90, 20, 70, 55, 1};
         int[] unwilling = {8, 54, -46, NONE, 0};
@@ -449,7 +404,7 @@ final class PromisesTest {
     }
 
     private static void promise17Whole() {
-        ConsentQueue queue = queueOf(5, 10, 9, 4, 2, 6, 30, 2, 1, 1);
+        ConsentQueue queue = Queues.of(5, 10, 9, 4, 2, 6, 30, 2, 1, 1);
         queue.setSplit(20);
         queue.say(1, 8);
         queue.swap(0);
@@ -457,7 +412,7 @@ final class PromisesTest {
         queue.offer(2, 29);
         queue.offer(3, 9999);
         queue.befriend(2);
-        type(queue, "x;");
+        Queues.type(queue, "x;");
         int[] due = {4, 20, 518, 518, 43, 0, 2, 0, 1, 1, 32, 1, 5, 2};
         for (int what = 0; what < due.length; what++) {
             Expect.equal("whole(" + what + ")", queue.whole(what), due[what]);
@@ -474,18 +429,18 @@ final class PromisesTest {
     }
 
     private static void promise17BestCost() {
-        ConsentQueue queue = queueOf(5, 10, 9, 4, 2, 6, 30, 2);
+        ConsentQueue queue = Queues.of(5, 10, 9, 4, 2, 6, 30, 2);
         Expect.equal("best cost", queue.whole(4), 80);
         queue.befriend(0);
         queue.befriend(1);
         queue.say(3, 0);
         Expect.equal("whatever the friends and words", queue.whole(4), 80);
-        ConsentQueue worthless = queueOf(0, 30, 0, 1, 0, 7);
+        ConsentQueue worthless = Queues.of(0, 30, 0, 1, 0, 7);
         Expect.equal("best cost of the patient", worthless.whole(4), 0);
     }
 
     private static void promise18Reason() {
-        ConsentQueue queue = queueOf(1, 1, 50, 1, 2, 1, 60, 1, 3, 1);
+        ConsentQueue queue = Queues.of(1, 1, 50, 1, 2, 1, 60, 1, 3, 1);
         Expect.equal("they would", queue.reason(0), 0);
         Expect.equal("no surplus", queue.reason(1), 4);
         queue.befriend(1);
@@ -506,7 +461,7 @@ final class PromisesTest {
     // ---- what if
 
     private static void promise19SettledPlace() {
-        ConsentQueue queue = queueOf(5, 10, 9, 4, 2, 6, 30, 2);
+        ConsentQueue queue = Queues.of(5, 10, 9, 4, 2, 6, 30, 2);
         int[] due = {2, 1, 3, 0};
         long before = queue.digest();
         for (int member = 0; member < due.length; member++) {
@@ -522,7 +477,7 @@ final class PromisesTest {
     }
 
     private static void promise20Profit() {
-        ConsentQueue queue = queueOf(5, 10, 9, 4, 2, 6, 30, 2);
+        ConsentQueue queue = Queues.of(5, 10, 9, 4, 2, 6, 30, 2);
         long before = queue.digest();
         Expect.equal("profit(0, 0)", queue.profit(0, 0), 145);
         Expect.equal("profit(0, 99)", queue.profit(0, 99), 239);
@@ -531,7 +486,7 @@ final class PromisesTest {
         Expect.equal("profit(3, 10)", queue.profit(3, 10), 484);
         Expect.equal("profit changes nothing", queue.digest(), before);
         queue.swap(0);
-        ConsentQueue moved = queueOf(9, 4, 5, 10, 2, 6, 30, 2);
+        ConsentQueue moved = Queues.of(9, 4, 5, 10, 2, 6, 30, 2);
         Expect.equal("money from before is not counted", queue.profit(0, 10),
                 moved.profit(1, 10));
         badArgument("profit(0, -1)", queue, () -> queue.profit(0, -1));
@@ -541,20 +496,20 @@ final class PromisesTest {
     }
 
     private static void promise21BestLie() {
-        ConsentQueue queue = queueOf(5, 10, 9, 4, 2, 6, 30, 2);
+        ConsentQueue queue = Queues.of(5, 10, 9, 4, 2, 6, 30, 2);
         int[] due = {99, 3, 3, 5};
         long before = queue.digest();
         for (int member = 0; member < due.length; member++) {
             Expect.equal("bestLie(" + member + ")", queue.bestLie(member), due[member]);
         }
         Expect.equal("bestLie changes nothing", queue.digest(), before);
-        Expect.equal("of several the least", queueOf(7, 7).bestLie(0), 0);
+        Expect.equal("of several the least", Queues.of(7, 7).bestLie(0), 0);
         badIndex("bestLie(4)", queue, () -> queue.bestLie(4));
         badIndex("bestLie(-1)", queue, () -> queue.bestLie(-1));
     }
 
     private static void promise22HonestCost() {
-        ConsentQueue queue = queueOf(5, 10, 9, 4, 2, 6, 30, 2);
+        ConsentQueue queue = Queues.of(5, 10, 9, 4, 2, 6, 30, 2);
         for (int member = 0; member < 4; member++) {
             queue.say(member, 1);
         }
@@ -567,12 +522,12 @@ final class PromisesTest {
     }
 
     private static void promise23Disorder() {
-        ConsentQueue queue = queueOf(5, 10, 9, 4, 2, 6, 30, 2);
+        ConsentQueue queue = Queues.of(5, 10, 9, 4, 2, 6, 30, 2);
         Expect.equal("disorder()", queue.disorder(), 4);
         queue.say(3, 0);
         Expect.equal("by true worths", queue.disorder(), 4);
-        Expect.equal("equal ones are in order", queueOf(6, 4, 3, 2, 9, 6).disorder(), 0);
-        Expect.equal("all turned round", fullQueue().disorder(), 45);
+        Expect.equal("equal ones are in order", Queues.of(6, 4, 3, 2, 9, 6).disorder(), 0);
+        Expect.equal("all turned round", Queues.full().disorder(), 45);
         Expect.equal("nobody", new ConsentQueue().disorder(), 0);
     }
 
@@ -596,45 +551,46 @@ final class PromisesTest {
     private static void promise25ClearCommands() {
         ConsentQueue queue = new ConsentQueue();
         Expect.equal("clearCommands(), empty", queue.clearCommands(), 0);
-        type(queue, "join 1 1;");
+        Queues.type(queue, "join 1 1;");
         Expect.equal("clearCommands()", queue.clearCommands(), 9);
         Expect.equal("length", queue.whole(13), 0);
         Expect.equal("nothing to run", queue.runCommands(), 0);
         Expect.equal("nobody joined", queue.whole(0), 0);
-        type(queue, "join 1 1");
+        Queues.type(queue, "join 1 1");
         Expect.equal("what stood behind is gone", queue.runCommands(), -18);
-        Expect.equal("only the run is saved", savedStates(queue), 1);
+        Expect.equal("only the run is saved", Queues.savedStates(queue), 1);
     }
 
     private static void promise26RunCommands() {
         ConsentQueue queue = new ConsentQueue();
-        Expect.equal("all words", run(queue, "join 5 10;join 9 4; push 2 6 0 ;say 0 7;swap 1;"
-                + "offer 0 9999;take 1;friend 0;part 0;leave 1;serve;settle; "), 12);
-        order("after all words", queue, 0);
+        Expect.equal("all words", Queues.run(queue, "join 5 10;join 9 4; push 2 6 0 ;say 0 7;"
+                + "swap 1;offer 0 9999;take 1;friend 0;part 0;leave 1;serve;settle; "), 12);
+        Queues.order("after all words", queue, 0);
         Expect.equal("swaps", queue.whole(9), 2);
         Expect.equal("served", queue.whole(11), 1);
         Expect.equal("the text stays", queue.whole(13), 105);
         Expect.equal("a run saves one state", queue.undo(), 0);
         Expect.equal("the one from before", queue.whole(12), 0);
         Expect.equal("the text is not undone", queue.whole(13), 105);
-        Expect.equal("it stops at a refusal", run(queue, "join 1 1;serve;serve;join 1 1;"), 2);
+        Expect.equal("it stops at a refusal",
+                Queues.run(queue, "join 1 1;serve;serve;join 1 1;"), 2);
         Expect.equal("nothing behind it", queue.whole(12), 1);
-        Expect.equal("an argument out of range", run(queue, "join 0100 1;join 1 1;"), 0);
-        Expect.equal("no such member", run(queue, "join 1 1;leave 9999;"), 1);
-        Expect.equal("zeros in front", run(queue, "say 0001 0099;"), 1);
+        Expect.equal("an argument out of range", Queues.run(queue, "join 0100 1;join 1 1;"), 0);
+        Expect.equal("no such member", Queues.run(queue, "join 1 1;leave 9999;"), 1);
+        Expect.equal("zeros in front", Queues.run(queue, "say 0001 0099;"), 1);
         Expect.equal("told", queue.member(1, 2), 99);
-        Expect.equal("saved", savedStates(queue), 4);
+        Expect.equal("saved", Queues.savedStates(queue), 4);
         ConsentQueue spaces = new ConsentQueue();
-        Expect.equal("spaces alone", run(spaces, "   "), 0);
-        Expect.equal("saved with no command", savedStates(spaces), 1);
-        Expect.equal("many", run(spaces, "settle;".repeat(21) + "   "), 21);
+        Expect.equal("spaces alone", Queues.run(spaces, "   "), 0);
+        Expect.equal("saved with no command", Queues.savedStates(spaces), 1);
+        Expect.equal("many", Queues.run(spaces, "settle;".repeat(21) + "   "), 21);
     }
 
     private static void fault(String text, int due) {
-        ConsentQueue queue = queueOf(1, 1, 2, 2);
-        Expect.equal("\"" + text + "\"", run(queue, text), -10 - due);
+        ConsentQueue queue = Queues.of(1, 1, 2, 2);
+        Expect.equal("\"" + text + "\"", Queues.run(queue, text), -10 - due);
         Expect.equal("\"" + text + "\" does nothing", queue.whole(12), 2);
-        Expect.equal("\"" + text + "\" is not saved", savedStates(queue), 2);
+        Expect.equal("\"" + text + "\" is not saved", Queues.savedStates(queue), 2);
     }
 
     private static void promise26Faults() {
@@ -703,16 +659,18 @@ final class PromisesTest {
     }
 
     private static ConsentQueue busyQueue() {
-        ConsentQueue queue = queueOf(5, 10, 9, 4, 2, 6, 30, 2);
+        ConsentQueue queue = Queues.of(5, 10, 9, 4, 2, 6, 30, 2);
         queue.offer(1, 25);
         queue.say(2, 3);
         queue.befriend(2);
         return queue;
     }
 
-    private static void undoes(String what, ConsentQueue queue, Expect.Call call) {
+    private static void undoes(String what, Refusal.Call call) {
+        ConsentQueue queue = busyQueue();
+        Queues.type(queue, "serve;serve;");
         long[] before = everything(queue);
-        call.answer();
+        call.on(queue);
         long[] changed = everything(queue);
         Expect.holds(what + " changes something", !java.util.Arrays.equals(before, changed));
         queue.undo();
@@ -736,21 +694,19 @@ final class PromisesTest {
     }
 
     private static void promise27UndoOfEachCall() {
-        ConsentQueue queue = busyQueue();
-        undoes("join", queue, () -> queue.join(1, 1));
-        undoes("joinAt", queue, () -> queue.joinAt(1, 1, 1));
-        undoes("leave", queue, () -> queue.leave(2));
-        undoes("serve", queue, () -> queue.serve());
-        undoes("say", queue, () -> queue.say(0, 7));
-        undoes("setSplit", queue, () -> queue.setSplit(7));
-        undoes("offer", queue, () -> queue.offer(2, 7));
-        undoes("take", queue, () -> queue.take(0));
-        undoes("swap", queue, () -> queue.swap(0));
-        undoes("befriend", queue, () -> queue.befriend(0));
-        undoes("part", queue, () -> queue.part(2));
-        undoes("settle", queue, () -> queue.settle());
-        type(queue, "serve;serve;");
-        undoes("runCommands", queue, () -> queue.runCommands());
+        undoes("join", queue -> queue.join(1, 1));
+        undoes("joinAt", queue -> queue.joinAt(1, 1, 1));
+        undoes("leave", queue -> queue.leave(2));
+        undoes("serve", queue -> queue.serve());
+        undoes("say", queue -> queue.say(0, 7));
+        undoes("setSplit", queue -> queue.setSplit(7));
+        undoes("offer", queue -> queue.offer(2, 7));
+        undoes("take", queue -> queue.take(0));
+        undoes("swap", queue -> queue.swap(0));
+        undoes("befriend", queue -> queue.befriend(0));
+        undoes("part", queue -> queue.part(2));
+        undoes("settle", queue -> queue.settle());
+        undoes("runCommands", queue -> queue.runCommands());
     }
 
     private static void promise28Digest() {
@@ -759,7 +715,7 @@ final class PromisesTest {
         ConsentQueue queue = busyQueue();
         Expect.equal("digest", queue.digest(), digestOf(4, queue));
         queue.undo();
-        type(queue, "serve");
+        Queues.type(queue, "serve");
         Expect.equal("digest of a text", queue.digest(), digestOf(3, queue));
         long before = queue.digest();
         queue.settle();

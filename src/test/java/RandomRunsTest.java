@@ -29,7 +29,7 @@ final class RandomRunsTest {
         for (int run = 0; run < RUNS; run++) {
             ConsentQueue queue = new ConsentQueue();
             PlainModel model = new PlainModel();
-            for (int left = CALLS; left > 0;) {
+            for (int left = CALLS; left > 1;) {
                 left -= step("run " + run + ", call " + (CALLS - left), queue, model, left);
             }
         }

@@ -2,8 +2,9 @@ import java.lang.management.ManagementFactory;
 
 /** All calls of a run live in one room, so the dearest calls must make no objects. */
 final class RoomTest {
-    private static final int CALLS = 500;
-    /** Well below one small object for each call. */
+    /** Seven calls each time, and 150 to make the queue: an object has 512. */
+    private static final int TIMES = 50;
+    /** Below one smallest object for each call. */
     private static final long MOST_BYTES = 4000;
 
     private RoomTest() {
@@ -16,9 +17,9 @@ final class RoomTest {
         long made = allocated() - before;
         Expect.holds("a queue takes " + made + " bytes", made < 20_000);
         before = allocated();
-        dearCalls(queue, CALLS);
+        dearCalls(queue, TIMES);
         made = allocated() - before;
-        Expect.holds(CALLS + " calls take " + made + " bytes", made < MOST_BYTES);
+        Expect.holds(7 * TIMES + " calls take " + made + " bytes", made < MOST_BYTES);
         Expect.finish();
     }
 
@@ -34,13 +35,13 @@ final class RoomTest {
     }
 
     /** Makes the machine load all that it needs, outside of the measure. */
-    private static void dearCalls(int calls) {
-        dearCalls(newFullQueue(), calls);
+    private static void dearCalls(int times) {
+        dearCalls(newFullQueue(), times);
         allocated();
     }
 
-    private static void dearCalls(ConsentQueue queue, int calls) {
-        for (int i = 0; i < calls; i++) {
+    private static void dearCalls(ConsentQueue queue, int times) {
+        for (int i = 0; i < times; i++) {
             queue.bestLie(i % 10);
             queue.settledPlace(0);
             queue.honestCost();
