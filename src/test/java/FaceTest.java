@@ -2,11 +2,16 @@ import java.lang.reflect.Constructor;
 import java.lang.reflect.Field;
 import java.lang.reflect.Method;
 import java.lang.reflect.Modifier;
+import java.util.ArrayList;
 import java.util.Arrays;
 import java.util.List;
+import java.util.Set;
 import java.util.TreeSet;
 
-/** The class shows the document's face and nothing else (rules 1 and 5 of LANGUAGE.md). */
+/**
+ * The class shows the document's face and nothing else (rule 1 of LANGUAGE.md), and what can be
+ * seen of all classes keeps to rules 3, 5 and 11.
+ */
 final class FaceTest {
     private static final String INDEX = "IndexOutOfBoundsException";
     private static final String ARGUMENT = "IllegalArgumentException";
@@ -40,6 +45,17 @@ final class FaceTest {
             "int undo() " + STATE,
             "long digest()");
 
+    private static final Set<Class<?>> TYPES = Set.of(int.class, long.class, short.class,
+            byte.class, char.class, boolean.class, double.class, float.class, String.class,
+            StringBuilder.class, List.class, ArrayList.class);
+    private static final Set<Class<?>> IN_ENUMS = Set.of(int.class, long.class, boolean.class,
+            String.class);
+    private static final Set<Class<?>> CONSTANTS = Set.of(int.class, long.class, char.class,
+            boolean.class, String.class, int[].class, long[].class, char[].class, byte[].class);
+    private static final int MOST_CLASSES = 12;
+    private static final int MOST_FIELDS = 20;
+    private static final int MOST_PARAMETERS = 7;
+
     private FaceTest() {
     }
 
@@ -48,6 +64,7 @@ final class FaceTest {
         fields();
         constructors();
         classes();
+        rules();
         Expect.finish();
     }
 
@@ -109,6 +126,55 @@ final class FaceTest {
             int modifiers = inside.getModifiers();
             Expect.holds(inside + " is private and static",
                     Modifier.isPrivate(modifiers) && Modifier.isStatic(modifiers));
+        }
+    }
+
+    private static void rules() {
+        Class<?>[] inside = ConsentQueue.class.getDeclaredClasses();
+        Expect.holds("at most some twelve classes", inside.length < MOST_CLASSES);
+        fieldRules(ConsentQueue.class);
+        parameters(ConsentQueue.class);
+        for (Class<?> each : inside) {
+            fieldRules(each);
+            parameters(each);
+        }
+    }
+
+    private static void fieldRules(Class<?> owner) {
+        int own = 0;
+        for (Field field : owner.getDeclaredFields()) {
+            if (field.isSynthetic()) {
+                continue;
+            }
+            if (Modifier.isStatic(field.getModifiers())) {
+                Expect.holds(field + " is a constant",
+                        Modifier.isFinal(field.getModifiers()) && isConstant(field.getType()));
+            } else {
+                own++;
+                Expect.holds(field + " is of a type that may stand there",
+                        mayStandInObjects(field.getType(), owner.isEnum()));
+            }
+        }
+        Expect.holds(owner + " has some twenty fields at most", own <= MOST_FIELDS);
+    }
+
+    private static boolean isConstant(Class<?> type) {
+        Class<?> element = type.isArray() ? type.getComponentType() : type;
+        return CONSTANTS.contains(type) || element.isEnum();
+    }
+
+    private static boolean mayStandInObjects(Class<?> type, boolean inEnum) {
+        if (inEnum) {
+            return IN_ENUMS.contains(type);
+        }
+        Class<?> element = type.isArray() ? type.getComponentType() : type;
+        return TYPES.contains(element) || element.getNestHost() == ConsentQueue.class;
+    }
+
+    private static void parameters(Class<?> owner) {
+        for (Method method : owner.getDeclaredMethods()) {
+            Expect.holds(method + " takes at most seven parameters",
+                    method.getParameterCount() <= MOST_PARAMETERS);
         }
     }
 }

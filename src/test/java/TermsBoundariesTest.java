@@ -6,6 +6,7 @@ final class TermsBoundariesTest {
     }
 
     public static void main(String[] args) {
+        use();
         members();
         swaps();
         offers();
@@ -14,6 +15,49 @@ final class TermsBoundariesTest {
         undo();
         exceptions();
         Expect.finish();
+    }
+
+    // ---- what it is, and for how long it is used
+
+    private static void use() {
+        Expect.sentence("What it is: all of the 512 calls answer", () -> {
+            ConsentQueue queue = new ConsentQueue();
+            for (int i = 0; i < 255; i++) {
+                Expect.equal("join()", queue.join(i % 100, 1 + i % 30), i);
+                Expect.equal("serve()", queue.serve(), i);
+            }
+            Expect.equal("511th call", queue.whole(12), 255);
+            Expect.equal("512th call", queue.undo(), 3);
+        });
+        Expect.sentence("What it is: a full text in all of the 512 calls", () -> {
+            ConsentQueue queue = new ConsentQueue();
+            Queues.type(queue, "join 0 1;serve;".repeat(10));
+            for (int run = 0; run < 360; run++) {
+                Expect.equal("runCommands()", queue.runCommands(), 20);
+            }
+            Expect.equal("511th call", queue.join(1, 1), 3600);
+            Expect.equal("512th call", queue.whole(11), 3600);
+        });
+        Expect.sentence("What it is: money gathered in all of the 512 calls", () -> {
+            ConsentQueue queue = Queues.of(0, 30);
+            queue.setSplit(100);
+            Queues.type(queue, "join 99 30;swap 0;serve;".repeat(6));
+            for (int run = 0; run < 364; run++) {
+                Expect.equal("runCommands()", queue.runCommands(), 18);
+            }
+            Expect.equal("511th call", queue.member(0, 6), 364 * 6 * 2970);
+            Expect.equal("512th call", queue.whole(10), 364 * 6 * 2970);
+        });
+        Expect.sentence("What it is: objects share nothing", () -> {
+            ConsentQueue one = Queues.busy();
+            ConsentQueue other = new ConsentQueue();
+            Expect.equal("members of a new one beside it", other.whole(0), 0);
+            Expect.badState("its undo()", () -> other.undo());
+            Queues.run(other, "join 1 1;join 2 2;swap 0;");
+            Expect.equal("what-if of the other", other.honestCost(), 2);
+            Expect.holds("the one is as it was",
+                    Snapshot.of(one).equals(Snapshot.of(Queues.busy())));
+        });
     }
 
     // ---- members
